@@ -1,0 +1,70 @@
+/** Compares answers with those that are due, prints each that differs, and ends the test. */
+final class Check {
+    /** A call that is expected to throw. */
+    interface Call {
+        void run();
+    }
+
+    private int asked;
+    private int wrong;
+
+    void equal(String what, long got, long due) {
+        asked++;
+        if (got != due) {
+            report(what + " answered " + got + ", due is " + due);
+        }
+    }
+
+    void equal(String what, double got, double due) {
+        asked++;
+        // Compared bit by bit, so that 0.0 and -0.0 differ and NaN is like itself alone.
+        if (Double.doubleToLongBits(got) != Double.doubleToLongBits(due)) {
+            report(what + " answered " + got + ", due is " + due);
+        }
+    }
+
+    void equal(String what, String got, String due) {
+        asked++;
+        if (!got.equals(due)) {
+            report(what + " answered " + got + ", due is " + due);
+        }
+    }
+
+    void yes(String what, boolean got) {
+        equal(what, got ? 1 : 0, 1);
+    }
+
+    void no(String what, boolean got) {
+        equal(what, got ? 1 : 0, 0);
+    }
+
+    /** The very class is compared: an exception of the machine is often below the one that is due. */
+    void refuses(String what, LetterSeals desk, Class<? extends RuntimeException> due, Call call) {
+        asked++;
+        String before = Desks.picture(desk);
+        try {
+            call.run();
+            report(what + " threw nothing, due is " + due.getSimpleName());
+        } catch (RuntimeException thrown) {
+            if (thrown.getClass() != due) {
+                report(what + " threw " + thrown + ", due is " + due.getSimpleName());
+            }
+        }
+        String after = Desks.picture(desk);
+        if (!after.equals(before)) {
+            report(what + " changed the desk from\n" + before + "to\n" + after);
+        }
+    }
+
+    void end() {
+        System.out.println(asked + " checks, " + wrong + " wrong");
+        if (wrong != 0) {
+            System.exit(1);
+        }
+    }
+
+    private void report(String text) {
+        wrong++;
+        System.out.println(text);
+    }
+}
