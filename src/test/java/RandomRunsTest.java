@@ -37,7 +37,7 @@ public final class RandomRunsTest {
             int b = argument(name.equals("write") ? signs : name.equals("firstOf") ? letters : places);
             int c = argument(name.equals("mend") ? signs : places);
             String what = "run " + run + ", call " + i + ": " + name + "(" + a + ", " + b + ", " + c + ")";
-            String got = answer(() -> ask(desk, name, a, b, c));
+            String got = new Call(name, a, b, c).answerOf(desk);
             String due = answer(() -> reference.call(name, a, b, c));
             check.equal(what, got, due);
         }
@@ -71,46 +71,5 @@ public final class RandomRunsTest {
     private int below(int bound) {
         seed = seed * 6364136223846793005L + 1442695040888963407L;
         return (int) ((seed >>> 33) % bound);
-    }
-
-    private static Object ask(LetterSeals desk, String name, int a, int b, int c) {
-        return switch (name) {
-            case "addLetter" -> desk.addLetter();
-            case "copyLetter" -> desk.copyLetter(a);
-            case "write" -> desk.write(a, b);
-            case "erase" -> desk.erase(a);
-            case "forge" -> desk.forge(a, b);
-            case "tear" -> desk.tear(a, b);
-            case "mend" -> desk.mend(a, b, c);
-            case "seal" -> desk.seal(a);
-            case "unseal" -> desk.unseal();
-            case "letters" -> desk.letters();
-            case "signsOf" -> desk.signsOf(a);
-            case "commasOf" -> desk.commasOf(a);
-            case "tearsOf" -> desk.tearsOf(a);
-            case "digestOf" -> desk.digestOf(a);
-            case "signAt" -> desk.signAt(a, b);
-            case "sumOf" -> desk.sumOf(a, b, c);
-            case "sameSums" -> desk.sameSums(a, b);
-            case "falseAlarms" -> desk.falseAlarms(a, b);
-            case "firstOf" -> desk.firstOf(a, b);
-            case "doubles" -> desk.doubles();
-            case "envelopes" -> desk.envelopes();
-            case "letterIn" -> desk.letterIn(a);
-            case "digestIn" -> desk.digestIn(a);
-            case "sealOf" -> desk.sealOf(a);
-            case "isWhole" -> desk.isWhole(a);
-            case "firstBroken" -> desk.firstBroken();
-            case "tornBlocks" -> desk.tornBlocks(a);
-            case "firstTorn" -> desk.firstTorn(a);
-            case "changedPlace" -> desk.changedPlace(a);
-            case "changedSign" -> desk.changedSign(a);
-            case "wouldSeal" -> desk.wouldSeal(a);
-            case "unnoticed" -> desk.unnoticed(a);
-            case "worstTear" -> desk.worstTear(a);
-            case "meanSigns" -> desk.meanSigns();
-            case "digest" -> desk.digest();
-            default -> throw new AssertionError(name);
-        };
     }
 }
