@@ -1,4 +1,4 @@
-/** A call by its name, with as many of the three numbers as the method takes. */
+/** A call by its name; a method that takes fewer than three numbers leaves the others alone. */
 record Call(String name, int a, int b, int c) {
 
     /** What the call answers, as a text; an exception is told by its very class. */
@@ -8,6 +8,11 @@ record Call(String name, int a, int b, int c) {
         } catch (RuntimeException thrown) {
             return "throws." + thrown.getClass().getSimpleName();
         }
+    }
+
+    @Override
+    public String toString() {
+        return name + "(" + a + ", " + b + ", " + c + ")";
     }
 
     private Object made(LetterSeals desk) {
