@@ -1,7 +1,6 @@
 import java.io.IOException;
 import java.nio.file.Files;
 import java.nio.file.Path;
-import java.util.ArrayList;
 import java.util.HashSet;
 import java.util.List;
 import java.util.Set;
@@ -19,9 +18,7 @@ public final class BoundaryRunsTest {
     private final Check check = new Check();
     private final Set<String> titles = new HashSet<>();
     private String title = "";
-    private List<Call> made = new ArrayList<>();
     private CountedDesk desk = new CountedDesk();
-    private String lastPicture;
 
     public static void main(String[] args) throws IOException {
         BoundaryRunsTest test = new BoundaryRunsTest();
@@ -49,9 +46,7 @@ public final class BoundaryRunsTest {
     private void beginRun(String newTitle) {
         title = newTitle;
         check.yes("no other run has the title: " + title, titles.add(title));
-        made = new ArrayList<>();
         desk = new CountedDesk();
-        lastPicture = null;
     }
 
     private void playLine(String text) {
@@ -75,7 +70,7 @@ public final class BoundaryRunsTest {
 
     /** A new letter with these signs; "40x9" stands for forty signs 9, and the sign 30 is written and torn. */
     private void playLetter(String signs) {
-        int letter = Integer.parseInt(playFine(new Call("addLetter", 0, 0, 0)));
+        int letter = Integer.parseInt(playFine(Call.of("addLetter")));
         if (signs.isEmpty()) {
             return;
         }
@@ -91,15 +86,13 @@ public final class BoundaryRunsTest {
 
     private void playSign(int letter, int sign) {
         boolean blurred = sign == 30;
-        int signs = Integer.parseInt(playFine(new Call("write", letter, blurred ? 0 : sign, 0)));
+        int signs = Integer.parseInt(playFine(Call.of("write", letter, blurred ? 0 : sign)));
         if (blurred) {
-            playFine(new Call("tear", letter, signs - 1, 0));
+            playFine(Call.of("tear", letter, signs - 1));
         }
     }
 
     private String playFine(Call call) {
-        lastPicture = null;
-        made.add(call);
         String got = desk.answer(call);
         if (got.startsWith("throws.")) {
             throw new AssertionError(title + ": " + call + " answered " + got);
@@ -109,42 +102,22 @@ public final class BoundaryRunsTest {
 
     private void playDue(Call call, String due) {
         boolean changesNothing = due.startsWith("throws.") || WOULD_BE.contains(call.name());
-        String before = changesNothing ? picture() : "";
-        lastPicture = null;
-        made.add(call);
+        String before = changesNothing ? desk.picture() : "";
         check.equal(title + ": " + call, desk.answer(call), due);
         if (changesNothing) {
-            check.equal(title + ": what is asked behind " + call, difference(before, picture()), "no change");
+            check.unchanged(call + ", in " + title, before, desk.picture());
         }
-    }
-
-    private String picture() {
-        if (lastPicture == null) {
-            lastPicture = Questions.allBehind(made);
-        }
-        return lastPicture;
-    }
-
-    private static String difference(String before, String after) {
-        String[] befores = before.split("\n");
-        String[] afters = after.split("\n");
-        for (int i = 0; i < Math.min(befores.length, afters.length); i++) {
-            if (!befores[i].equals(afters[i])) {
-                return befores[i] + " before, " + afters[i] + " behind";
-            }
-        }
-        return before.equals(after) ? "no change" : "more or fewer answers";
     }
 
     private static Call call(String text) {
         int open = text.indexOf('(');
         String inside = text.substring(open + 1, text.lastIndexOf(')')).strip();
-        int[] numbers = new int[3];
         String[] words = inside.isEmpty() ? new String[0] : inside.split(", *");
+        int[] numbers = new int[words.length];
         for (int i = 0; i < words.length; i++) {
             numbers[i] = number(words[i].strip());
         }
-        return new Call(text.substring(0, open).strip(), numbers[0], numbers[1], numbers[2]);
+        return Call.of(text.substring(0, open).strip(), numbers);
     }
 
     private static int number(String word) {

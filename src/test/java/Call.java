@@ -1,13 +1,9 @@
 /** A call by its name; a method that takes fewer than three numbers leaves the others alone. */
 record Call(String name, int a, int b, int c) {
 
-    /** What the call answers, as a text; an exception is told by its very class. */
-    String answerOf(LetterSeals desk) {
-        try {
-            return made(desk).toString();
-        } catch (RuntimeException thrown) {
-            return "throws." + thrown.getClass().getSimpleName();
-        }
+    static Call of(String name, int... numbers) {
+        int[] all = java.util.Arrays.copyOf(numbers, 3);
+        return new Call(name, all[0], all[1], all[2]);
     }
 
     @Override
@@ -15,7 +11,7 @@ record Call(String name, int a, int b, int c) {
         return name + "(" + a + ", " + b + ", " + c + ")";
     }
 
-    private Object made(LetterSeals desk) {
+    Object made(LetterSeals desk) {
         return switch (name) {
             case "addLetter" -> desk.addLetter();
             case "copyLetter" -> desk.copyLetter(a);

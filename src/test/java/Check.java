@@ -39,9 +39,9 @@ final class Check {
     }
 
     /** The very class is compared: an exception of the machine is often below the one that is due. */
-    void refuses(String what, LetterSeals desk, Class<? extends RuntimeException> due, Call call) {
+    void refuses(String what, CountedDesk desk, Class<? extends RuntimeException> due, Call call) {
         asked++;
-        String before = Desks.picture(desk);
+        String before = desk.picture();
         try {
             call.run();
             report(what + " threw nothing, due is " + due.getSimpleName());
@@ -50,10 +50,23 @@ final class Check {
                 report(what + " threw " + thrown + ", due is " + due.getSimpleName());
             }
         }
-        String after = Desks.picture(desk);
-        if (!after.equals(before)) {
-            report(what + " changed the desk from\n" + before + "to\n" + after);
+        unchanged(what, before, desk.picture());
+    }
+
+    /** Compares two pictures of a desk. */
+    void unchanged(String what, String before, String behind) {
+        equal("what is asked behind " + what, difference(before, behind), "no change");
+    }
+
+    private static String difference(String before, String behind) {
+        String[] befores = before.split("\n");
+        String[] behinds = behind.split("\n");
+        for (int i = 0; i < Math.min(befores.length, behinds.length); i++) {
+            if (!befores[i].equals(behinds[i])) {
+                return befores[i] + " before, " + behinds[i] + " behind";
+            }
         }
+        return before.equals(behind) ? "no change" : "more or fewer answers";
     }
 
     void end() {

@@ -24,7 +24,7 @@ public final class EnvelopesTest {
     }
 
     private void promise9Seal() {
-        LetterSeals desk = Desks.with(Desks.signs(1, 2), Desks.signs(), Desks.signs(3));
+        CountedDesk desk = Desks.with(Desks.signs(1, 2), Desks.signs(), Desks.signs(3));
         check.refuses("seal without signs", desk, STATE, () -> desk.seal(1));
         for (int letter : new int[] {-1, 3, 12, Integer.MAX_VALUE, Integer.MIN_VALUE}) {
             check.refuses("seal letter " + letter, desk, BOUNDS, () -> desk.seal(letter));
@@ -41,7 +41,7 @@ public final class EnvelopesTest {
     }
 
     private void promise10Unseal() {
-        LetterSeals desk = Desks.with(Desks.signs(0), Desks.repeated(9, 40), Desks.signs(7, 7));
+        CountedDesk desk = Desks.with(Desks.signs(0), Desks.repeated(9, 40), Desks.signs(7, 7));
         check.refuses("unseal of none", desk, STATE, desk::unseal);
         desk.seal(0);
         desk.seal(0);
@@ -67,7 +67,7 @@ public final class EnvelopesTest {
     }
 
     private void promises22To25WhatIsWritten() {
-        LetterSeals desk = Desks.with(Desks.signs(11, 14, 21, 4), Desks.signs(0));
+        CountedDesk desk = Desks.with(Desks.signs(11, 14, 21, 4), Desks.signs(0));
         check.equal("envelopes at first", desk.envelopes(), 0);
         desk.seal(1);
         desk.seal(0);
@@ -86,7 +86,7 @@ public final class EnvelopesTest {
     }
 
     private void promise25SealOf() {
-        LetterSeals desk = Desks.with(Desks.signs(0));
+        CountedDesk desk = Desks.with(Desks.signs(0));
         int before = 1;
         for (int i = 0; i < 24; i++) {
             desk.seal(0);
@@ -97,7 +97,7 @@ public final class EnvelopesTest {
     }
 
     private void promise26IsWhole() {
-        LetterSeals desk = Desks.with(Desks.signs(0, 0, 23));
+        CountedDesk desk = Desks.with(Desks.signs(0, 0, 23));
         desk.seal(0);
         check.yes("whole as sealed", desk.isWhole(0));
         desk.write(0, 1);
@@ -117,7 +117,7 @@ public final class EnvelopesTest {
     }
 
     private void promise27FirstBroken() {
-        LetterSeals desk = Desks.with(Desks.signs(1), Desks.signs(2));
+        CountedDesk desk = Desks.with(Desks.signs(1), Desks.signs(2));
         check.equal("firstBroken of none", desk.firstBroken(), -1);
         desk.seal(0);
         desk.seal(1);
@@ -140,7 +140,7 @@ public final class EnvelopesTest {
     }
 
     private void promises28And29TornBlocks() {
-        LetterSeals desk = Desks.with(Desks.signs(0, 0, 0, 0, 0, 1, 2, 0, 0, 0, 5));
+        CountedDesk desk = Desks.with(Desks.signs(0, 0, 0, 0, 0, 1, 2, 0, 0, 0, 5));
         desk.seal(0);
         torn(desk, 0, -1);
         Desks.rewrite(desk, 0, 0, 0, 0, 0, 0, 2, 1, 0, 0, 0, 5);
@@ -162,7 +162,7 @@ public final class EnvelopesTest {
     }
 
     private void promises28And29OtherLengths() {
-        LetterSeals desk = Desks.with(Desks.repeated(0, 6));
+        CountedDesk desk = Desks.with(Desks.repeated(0, 6));
         desk.seal(0);
         desk.write(0, 0);
         check.no("one sign more", desk.isWhole(0));
@@ -179,7 +179,7 @@ public final class EnvelopesTest {
         torn(desk, 1, 1);
         Desks.rewrite(desk, 0);
         torn(desk, 2, 0);
-        LetterSeals erased = Desks.with(Desks.signs(1, 2));
+        CountedDesk erased = Desks.with(Desks.signs(1, 2));
         erased.seal(0);
         erased.write(0, 9);
         erased.erase(0);
@@ -190,7 +190,7 @@ public final class EnvelopesTest {
         erased.write(0, 9);
         erased.erase(0);
         torn(erased, 0, -1);
-        LetterSeals full = Desks.with(Desks.repeated(0, 40));
+        CountedDesk full = Desks.with(Desks.repeated(0, 40));
         full.seal(0);
         Desks.rewrite(full, 0);
         torn(full, 8, 0);
@@ -203,7 +203,7 @@ public final class EnvelopesTest {
     }
 
     private void promises30And31Changed() {
-        LetterSeals desk = Desks.with(Desks.signs(11, 30, 21, 4, 26, 11));
+        CountedDesk desk = Desks.with(Desks.signs(11, 30, 21, 4, 26, 11));
         desk.seal(0);
         changed(desk, -1, 0);
         check.equal("mend", desk.mend(0, 1, 14), 0);
@@ -224,7 +224,7 @@ public final class EnvelopesTest {
     }
 
     private void promises30And31NoPlace() {
-        LetterSeals desk = Desks.with(Desks.signs(5, 5, 5, 5));
+        CountedDesk desk = Desks.with(Desks.signs(5, 5, 5, 5));
         desk.seal(0);
         Desks.rewrite(desk, 0, 6, 5, 6, 5);
         // Two signs were changed, but one, 7 in the place of 5 between them, would make both sums.
@@ -242,7 +242,7 @@ public final class EnvelopesTest {
         changed(desk, -1, 0);
         Desks.rewrite(desk, 0);
         changed(desk, -1, 0);
-        LetterSeals zeros = Desks.with(Desks.signs(3, 0));
+        CountedDesk zeros = Desks.with(Desks.signs(3, 0));
         zeros.seal(0);
         Desks.rewrite(zeros, 0, 3);
         // Both sums are as written, but there are fewer signs.
@@ -250,7 +250,7 @@ public final class EnvelopesTest {
         changed(zeros, -1, 0);
         Desks.rewrite(zeros, 0, 4);
         changed(zeros, -1, 0);
-        LetterSeals whole = Desks.with(Desks.signs(10, 10, 2, 17));
+        CountedDesk whole = Desks.with(Desks.signs(10, 10, 2, 17));
         whole.seal(0);
         Desks.rewrite(whole, 0, 7, 7, 14, 10);
         check.yes("other signs of the same digest", whole.isWhole(0));
@@ -259,23 +259,23 @@ public final class EnvelopesTest {
     }
 
     private void promises30And31Bounds() {
-        LetterSeals high = Desks.with(Desks.signs(29, 28, 29));
+        CountedDesk high = Desks.with(Desks.signs(29, 28, 29));
         high.seal(0);
         Desks.rewrite(high, 0, 28, 28, 28);
         changed(high, 1, 30);
-        LetterSeals above = Desks.with(Desks.signs(29, 29, 29));
+        CountedDesk above = Desks.with(Desks.signs(29, 29, 29));
         above.seal(0);
         Desks.rewrite(above, 0, 28, 29, 28);
         changed(above, -1, 0);
-        LetterSeals low = Desks.with(Desks.signs(1, 2, 1));
+        CountedDesk low = Desks.with(Desks.signs(1, 2, 1));
         low.seal(0);
         Desks.rewrite(low, 0, 2, 2, 2);
         changed(low, 1, 0);
-        LetterSeals below = Desks.with(Desks.signs(1, 1, 1));
+        CountedDesk below = Desks.with(Desks.signs(1, 1, 1));
         below.seal(0);
         Desks.rewrite(below, 0, 2, 1, 2);
         changed(below, -1, 0);
-        LetterSeals behind = Desks.with(Desks.signs(9, 9, 9));
+        CountedDesk behind = Desks.with(Desks.signs(9, 9, 9));
         behind.seal(0);
         Desks.rewrite(behind, 0, 8, 9, 11);
         // One was added, five by place: it would be place 4, where no sign stands.
@@ -286,29 +286,29 @@ public final class EnvelopesTest {
         behind.write(0, 9);
         behind.erase(0);
         changed(behind, -1, 0);
-        LetterSeals full = Desks.with(Desks.repeated(9, 40));
+        CountedDesk full = Desks.with(Desks.repeated(9, 40));
         full.seal(0);
         full.erase(0);
         full.erase(0);
         Desks.append(full, 0, 8, 11);
         changed(full, -1, 0);
-        LetterSeals last = Desks.with(Desks.repeated(0, 40));
+        CountedDesk last = Desks.with(Desks.repeated(0, 40));
         last.seal(0);
         last.tear(0, 39);
         changed(last, 39, 0);
     }
 
     private void promises22To31WrongInputs() {
-        LetterSeals desk = Desks.with(Desks.signs(1, 2, 3), Desks.signs(4));
+        CountedDesk desk = Desks.with(Desks.signs(1, 2, 3), Desks.signs(4));
         desk.seal(0);
         desk.tear(0, 0);
         for (int envelope : WRONG) {
             refusesAll(desk, envelope);
         }
-        LetterSeals none = new LetterSeals();
+        CountedDesk none = new CountedDesk();
         refusesAll(none, 0);
         refusesAll(none, -1);
-        LetterSeals full = Desks.with(Desks.signs(1));
+        CountedDesk full = Desks.with(Desks.signs(1));
         for (int i = 0; i < 24; i++) {
             full.seal(0);
         }
@@ -317,7 +317,7 @@ public final class EnvelopesTest {
         refusesAll(full, 23);
     }
 
-    private void refusesAll(LetterSeals desk, int envelope) {
+    private void refusesAll(CountedDesk desk, int envelope) {
         check.refuses("letterIn " + envelope, desk, BOUNDS, () -> desk.letterIn(envelope));
         check.refuses("digestIn " + envelope, desk, BOUNDS, () -> desk.digestIn(envelope));
         check.refuses("sealOf " + envelope, desk, BOUNDS, () -> desk.sealOf(envelope));
@@ -328,13 +328,13 @@ public final class EnvelopesTest {
         check.refuses("changedSign " + envelope, desk, BOUNDS, () -> desk.changedSign(envelope));
     }
 
-    private void torn(LetterSeals desk, int blocks, int first) {
+    private void torn(CountedDesk desk, int blocks, int first) {
         String signs = Desks.signsIn(desk, 0);
         check.equal("torn blocks of " + signs, desk.tornBlocks(0), blocks);
         check.equal("first torn block of " + signs, desk.firstTorn(0), first);
     }
 
-    private void changed(LetterSeals desk, int place, int sign) {
+    private void changed(CountedDesk desk, int place, int sign) {
         String signs = Desks.signsIn(desk, 0);
         check.equal("changed place of " + signs, desk.changedPlace(0), place);
         if (place < 0) {

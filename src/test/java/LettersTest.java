@@ -21,19 +21,19 @@ public final class LettersTest {
     }
 
     private void promise1NewObject() {
-        LetterSeals desk = new LetterSeals();
+        CountedDesk desk = new CountedDesk();
         check.equal("letters of a new desk", desk.letters(), 0);
         check.equal("envelopes of a new desk", desk.envelopes(), 0);
-        LetterSeals used = Desks.with(Desks.signs(1, 2));
+        CountedDesk used = Desks.with(Desks.signs(1, 2));
         used.seal(0);
-        LetterSeals other = new LetterSeals();
+        CountedDesk other = new CountedDesk();
         check.equal("letters of another new desk", other.letters(), 0);
         check.equal("envelopes of another new desk", other.envelopes(), 0);
         check.equal("letters of the used desk", used.letters(), 1);
     }
 
     private void promise2AddLetter() {
-        LetterSeals desk = new LetterSeals();
+        CountedDesk desk = new CountedDesk();
         for (int i = 0; i < 12; i++) {
             check.equal("addLetter", desk.addLetter(), i);
             check.equal("letters after addLetter", desk.letters(), i + 1);
@@ -45,7 +45,7 @@ public final class LettersTest {
     }
 
     private void promise3CopyLetter() {
-        LetterSeals desk = Desks.with(Desks.signs(3, 30, 27, 29));
+        CountedDesk desk = Desks.with(Desks.signs(3, 30, 27, 29));
         check.equal("copyLetter", desk.copyLetter(0), 1);
         check.equal("letters", desk.letters(), 2);
         check.equal("the copy", Desks.signsIn(desk, 1), "3 30 27 29");
@@ -71,7 +71,7 @@ public final class LettersTest {
     }
 
     private void promise4Write() {
-        LetterSeals desk = Desks.with(Desks.signs(), Desks.signs(8));
+        CountedDesk desk = Desks.with(Desks.signs(), Desks.signs(8));
         for (int i = 0; i < 40; i++) {
             int sign = i % 30;
             check.equal("write", desk.write(0, sign), i + 1);
@@ -90,12 +90,12 @@ public final class LettersTest {
         for (int letter : new int[] {-1, 2, 12, Integer.MAX_VALUE, Integer.MIN_VALUE}) {
             check.refuses("write in letter " + letter, desk, BOUNDS, () -> desk.write(letter, 0));
         }
-        LetterSeals none = new LetterSeals();
+        CountedDesk none = new CountedDesk();
         check.refuses("write without letters", none, BOUNDS, () -> none.write(0, 0));
     }
 
     private void promise5Erase() {
-        LetterSeals desk = Desks.with(Desks.signs(4, 30, 9), Desks.signs(6));
+        CountedDesk desk = Desks.with(Desks.signs(4, 30, 9), Desks.signs(6));
         check.equal("erase a letter's sign", desk.erase(0), 9);
         check.equal("signs after erase", Desks.signsIn(desk, 0), "4 30");
         check.equal("erase a blurred one", desk.erase(0), 30);
@@ -111,7 +111,7 @@ public final class LettersTest {
     }
 
     private void promise6Forge() {
-        LetterSeals desk = Desks.with(Desks.signs(4, 30, 27, 29));
+        CountedDesk desk = Desks.with(Desks.signs(4, 30, 27, 29));
         check.equal("forge the first", desk.forge(0, 0), 4);
         check.equal("forge a blurred one", desk.forge(0, 1), 30);
         check.equal("forge the last", desk.forge(0, 3), 29);
@@ -132,7 +132,7 @@ public final class LettersTest {
     }
 
     private void promise7Tear() {
-        LetterSeals desk = Desks.with(Desks.signs(4, 27, 0, 29));
+        CountedDesk desk = Desks.with(Desks.signs(4, 27, 0, 29));
         check.equal("tear the first", desk.tear(0, 0), 4);
         check.equal("tear a comma", desk.tear(0, 1), 27);
         check.equal("tear the last", desk.tear(0, 3), 29);
@@ -150,7 +150,7 @@ public final class LettersTest {
     }
 
     private void promise8Mend() {
-        LetterSeals desk = Desks.with(Desks.signs(30, 4, 30, 30));
+        CountedDesk desk = Desks.with(Desks.signs(30, 4, 30, 30));
         check.equal("mend the first", desk.mend(0, 0, 29), 2);
         check.equal("mend with a comma", desk.mend(0, 2, 27), 1);
         check.refuses("mend what is not blurred", desk, STATE, () -> desk.mend(0, 1, 4));

@@ -23,7 +23,7 @@ public final class OfLettersTest {
     }
 
     private void promise11Letters() {
-        LetterSeals desk = new LetterSeals();
+        CountedDesk desk = new CountedDesk();
         check.equal("letters at first", desk.letters(), 0);
         desk.addLetter();
         check.equal("letters after addLetter", desk.letters(), 1);
@@ -35,7 +35,7 @@ public final class OfLettersTest {
     }
 
     private void promises12To14Counts() {
-        LetterSeals desk = Desks.with(Desks.signs(), Desks.signs(27, 30, 27, 26, 28, 29, 0), Desks.repeated(27, 40),
+        CountedDesk desk = Desks.with(Desks.signs(), Desks.signs(27, 30, 27, 26, 28, 29, 0), Desks.repeated(27, 40),
             Desks.repeated(30, 40));
         int[] signs = {0, 7, 40, 40};
         int[] commas = {0, 2, 40, 0};
@@ -64,7 +64,7 @@ public final class OfLettersTest {
     }
 
     private void promise15DigestOf() {
-        LetterSeals desk = Desks.with(Desks.signs(), Desks.signs(0), Desks.signs(30), Desks.signs(11, 14, 21, 4));
+        CountedDesk desk = Desks.with(Desks.signs(), Desks.signs(0), Desks.signs(30), Desks.signs(11, 14, 21, 4));
         check.equal("digest of no signs", desk.digestOf(0), 5);
         check.equal("digest of a", desk.digestOf(1), 186);
         check.equal("digest of a blurred sign", desk.digestOf(2), 216);
@@ -79,7 +79,7 @@ public final class OfLettersTest {
     }
 
     private void promise16SignAt() {
-        LetterSeals desk = Desks.with(Desks.signs(29, 0, 30, 27), Desks.repeated(9, 40), Desks.signs(), Desks.signs(1));
+        CountedDesk desk = Desks.with(Desks.signs(29, 0, 30, 27), Desks.repeated(9, 40), Desks.signs(), Desks.signs(1));
         check.equal("the signs", Desks.signsIn(desk, 0), "29 0 30 27");
         check.equal("the last of 40", desk.signAt(1, 39), 9);
         for (int place : new int[] {-1, 4, 5, 39, 40, Integer.MAX_VALUE, Integer.MIN_VALUE}) {
@@ -93,7 +93,7 @@ public final class OfLettersTest {
     }
 
     private void promise17SumOf() {
-        LetterSeals desk = Desks.with(Desks.signs(11, 14, 21, 4), Desks.repeated(29, 40), Desks.signs(),
+        CountedDesk desk = Desks.with(Desks.signs(11, 14, 21, 4), Desks.repeated(29, 40), Desks.signs(),
             Desks.repeated(30, 5));
         check.equal("sum of l", desk.sumOf(0, 0, 1), 12);
         check.equal("sum of ov", desk.sumOf(0, 1, 2), 30);
@@ -119,7 +119,7 @@ public final class OfLettersTest {
     }
 
     private void promise18SameSums() {
-        LetterSeals desk = Desks.with(Desks.signs(0, 7, 1, 0), Desks.signs(0, 0, 13, 6),
+        CountedDesk desk = Desks.with(Desks.signs(0, 7, 1, 0), Desks.signs(0, 0, 13, 6),
             Desks.signs(0, 7, 0, 7, 1, 0), Desks.repeated(0, 40), Desks.signs());
         check.equal("0 7 and 1 0", desk.sameSums(0, 2), 1);
         check.equal("the two a", desk.sameSums(0, 1), 1);
@@ -137,7 +137,7 @@ public final class OfLettersTest {
     }
 
     private void promise19FalseAlarms() {
-        LetterSeals desk = Desks.with(Desks.signs(0, 7, 1, 0), Desks.signs(0, 0, 13, 6),
+        CountedDesk desk = Desks.with(Desks.signs(0, 7, 1, 0), Desks.signs(0, 0, 13, 6),
             Desks.signs(0, 7, 0, 7, 1, 0), Desks.repeated(0, 40), Desks.signs());
         check.equal("0 7 and 1 0", desk.falseAlarms(0, 2), 1);
         check.equal("the two a", desk.falseAlarms(0, 1), 0);
@@ -158,7 +158,7 @@ public final class OfLettersTest {
     }
 
     private void promises18And19WrongInputs() {
-        LetterSeals desk = Desks.with(Desks.signs(0, 7, 1, 0), Desks.signs(), Desks.signs(1), Desks.signs(2));
+        CountedDesk desk = Desks.with(Desks.signs(0, 7, 1, 0), Desks.signs(), Desks.signs(1), Desks.signs(2));
         for (int length : new int[] {0, -1, 41, Integer.MAX_VALUE, Integer.MIN_VALUE}) {
             check.refuses("sameSums " + length, desk, ARGUMENT, () -> desk.sameSums(0, length));
             check.refuses("falseAlarms " + length, desk, ARGUMENT, () -> desk.falseAlarms(0, length));
@@ -172,7 +172,7 @@ public final class OfLettersTest {
     }
 
     private void promise20FirstOf() {
-        LetterSeals desk = Desks.with(Desks.signs(0, 1, 2, 0, 1, 3), Desks.signs(0, 1, 3), Desks.signs(),
+        CountedDesk desk = Desks.with(Desks.signs(0, 1, 2, 0, 1, 3), Desks.signs(0, 1, 3), Desks.signs(),
             Desks.signs(3));
         check.equal("at the end", desk.firstOf(0, 1), 3);
         check.equal("in itself", desk.firstOf(0, 0), 0);
@@ -187,7 +187,7 @@ public final class OfLettersTest {
             check.refuses("firstOf of " + letter, desk, BOUNDS, () -> desk.firstOf(0, letter));
             check.refuses("firstOf of an empty one in " + letter, desk, BOUNDS, () -> desk.firstOf(letter, 2));
         }
-        LetterSeals other = Desks.with(Desks.signs(5, 5, 5, 6, 5, 5, 6), Desks.signs(5, 5, 6),
+        CountedDesk other = Desks.with(Desks.signs(5, 5, 5, 6, 5, 5, 6), Desks.signs(5, 5, 6),
             Desks.signs(6, 5, 5, 6, 5), Desks.signs(5));
         check.equal("the first of two, begun in a wrong one", other.firstOf(0, 1), 1);
         check.equal("only its beginning is there", other.firstOf(0, 2), -1);
@@ -199,7 +199,7 @@ public final class OfLettersTest {
     }
 
     private void promise21Doubles() {
-        LetterSeals desk = new LetterSeals();
+        CountedDesk desk = new CountedDesk();
         check.equal("doubles without letters", desk.doubles(), 0);
         Desks.add(desk, 0, 0, 23);
         check.equal("doubles of one letter", desk.doubles(), 0);
@@ -215,9 +215,9 @@ public final class OfLettersTest {
         check.equal("one with the digest of no signs", desk.doubles(), 4);
         desk.forge(1, 0);
         check.equal("doubles after forging", desk.doubles(), 2);
-        LetterSeals lengths = Desks.with(Desks.signs(0, 10), Desks.signs(4, 18, 0));
+        CountedDesk lengths = Desks.with(Desks.signs(0, 10), Desks.signs(4, 18, 0));
         check.equal("doubles of two lengths", lengths.doubles(), 1);
-        LetterSeals many = new LetterSeals();
+        CountedDesk many = new CountedDesk();
         for (int i = 0; i < 6; i++) {
             Desks.add(many, 0, 0, 23);
             Desks.add(many, 6, 0, 0);

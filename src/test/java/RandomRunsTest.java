@@ -22,7 +22,7 @@ public final class RandomRunsTest {
     }
 
     private void run(int run) {
-        LetterSeals desk = new LetterSeals();
+        CountedDesk desk = new CountedDesk();
         ReferenceDesk reference = new ReferenceDesk();
         // Few kinds of signs make windows, letters and sums alike; few letters make long ones;
         // low places are there in short letters too.
@@ -38,7 +38,7 @@ public final class RandomRunsTest {
             int b = argument(name.equals("write") ? signs : name.equals("firstOf") ? letters : places);
             int c = argument(name.equals("mend") ? signs : places);
             Call call = new Call(name, a, b, c);
-            String got = call.answerOf(desk);
+            String got = desk.answer(call);
             String due = answerOf(reference, call);
             check.equal("run " + run + ", call " + i + ": " + call, got, due);
         }

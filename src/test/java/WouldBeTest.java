@@ -17,7 +17,7 @@ public final class WouldBeTest {
     }
 
     private void promise32WouldSeal() {
-        LetterSeals desk = Desks.with(Desks.signs(0), Desks.signs());
+        CountedDesk desk = Desks.with(Desks.signs(0), Desks.signs());
         check.equal("wouldSeal of the first", desk.wouldSeal(0), 239);
         check.equal("envelopes after wouldSeal", desk.envelopes(), 0);
         check.refuses("wouldSeal without signs", desk, STATE, () -> desk.wouldSeal(1));
@@ -37,17 +37,17 @@ public final class WouldBeTest {
     }
 
     private void promise33Unnoticed() {
-        LetterSeals desk = Desks.with(Desks.signs(), Desks.signs(27, 27, 27, 27, 27));
+        CountedDesk desk = Desks.with(Desks.signs(), Desks.signs(27, 27, 27, 27, 27));
         check.equal("unnoticed without signs", desk.unnoticed(0), 0);
         check.equal("unnoticed among commas", desk.unnoticed(1), 0);
         for (int place = 0; place < 10; place++) {
             for (int sign = 0; sign <= 30; sign++) {
                 int[] signs = Desks.repeated(0, 10);
                 signs[place] = sign;
-                Desks.rewrite(desk, 0, signs);
                 boolean second = place % 5 == 1 && sign == 11;
                 boolean fourth = place % 5 == 3 && (sign == 3 || sign == 11 || sign == 19);
-                check.equal("unnoticed of " + sign + " at " + place, desk.unnoticed(0), second || fourth ? 1 : 0);
+                check.equal("unnoticed of " + sign + " at " + place, Desks.with(signs).unnoticed(0),
+                    second || fourth ? 1 : 0);
             }
         }
         Desks.rewrite(desk, 0, Desks.repeated(11, 40));
@@ -59,7 +59,7 @@ public final class WouldBeTest {
     }
 
     private void promise34WorstTear() {
-        LetterSeals desk = Desks.with(Desks.signs(), Desks.signs(30, 30, 30));
+        CountedDesk desk = Desks.with(Desks.signs(), Desks.signs(30, 30, 30));
         check.equal("worstTear without signs", desk.worstTear(0), -1);
         check.equal("worstTear of blurred ones", desk.worstTear(1), -1);
         worst(desk, 0, 0);
@@ -83,13 +83,13 @@ public final class WouldBeTest {
         }
     }
 
-    private void worst(LetterSeals desk, int due, int... signs) {
+    private void worst(CountedDesk desk, int due, int... signs) {
         Desks.rewrite(desk, 0, signs);
         check.equal("worstTear of " + Desks.signsIn(desk, 0), desk.worstTear(0), due);
     }
 
     private void promise35MeanSigns() {
-        LetterSeals desk = new LetterSeals();
+        CountedDesk desk = new CountedDesk();
         check.equal("mean without letters", desk.meanSigns(), 0.0);
         desk.addLetter();
         check.equal("mean without signs", desk.meanSigns(), 0.0);
@@ -102,7 +102,7 @@ public final class WouldBeTest {
         check.equal("mean of 3, 0 and 1", desk.meanSigns(), 4.0 / 3.0);
         desk.tear(2, 0);
         check.equal("mean with a blurred sign", desk.meanSigns(), 4.0 / 3.0);
-        LetterSeals full = new LetterSeals();
+        CountedDesk full = new CountedDesk();
         for (int i = 0; i < 12; i++) {
             Desks.add(full, Desks.repeated(i, 40));
         }
@@ -110,8 +110,8 @@ public final class WouldBeTest {
     }
 
     private void promise36Digest() {
-        check.equal("checksum of a new desk", new LetterSeals().digest(), 1827648058L);
-        LetterSeals desk = Desks.with(Desks.signs(0, 0, 23), Desks.signs(6, 0, 0), Desks.signs());
+        check.equal("checksum of a new desk", new CountedDesk().digest(), 1827648058L);
+        CountedDesk desk = Desks.with(Desks.signs(0, 0, 23), Desks.signs(6, 0, 0), Desks.signs());
         check.equal("checksum of three letters", desk.digest(), 7603750797561726018L);
         Desks.add(desk, 0, 7, 0, 7, 1, 0);
         Desks.add(desk, 27, 11, 30, 3, 2, 9, 27);
